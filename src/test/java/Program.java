@@ -27,8 +27,8 @@ final class Program {
         return set(30, address).set(31, value).add(Asm.s(2, 30, 31, 0));
     }
 
-    int size() {
-        return words.size();
+    int word(int i) {
+        return words.get(i);
     }
 
     /** Where the next word comes. */
