@@ -131,7 +131,7 @@ public final class RvCore {
     // One STEP.
 
     private int stepOnce() {
-        boolean wakes = timer.isDue() && controls.timerEnabled();
+        boolean wakes = controls.timerEnabled() && timer.isDue();
         if (wakes && controls.interruptsOn) {
             waiting = false;
             int base = controls.enter(place, CAUSE_TIMER, 0);

@@ -26,12 +26,13 @@ public final class MemoryCallsTest {
 
     private static void pokesTheLowestBits() {
         RvCore core = new RvCore(64, 0);
+        core.load(4, 0x0D0C0B0A);
         int[] numbers = {-1, 256, 0x12345680, Integer.MIN_VALUE, Integer.MAX_VALUE, 255};
         for (int b : numbers) {
             core.poke(6, b);
             Due.due("peek behind poke(6, " + b + ")", core.peek(6), b & 255);
-            Due.due("peek(5)", core.peek(5), 0);
-            Due.due("peek(7)", core.peek(7), 0);
+            Due.due("peek(5)", core.peek(5), 0x0B);
+            Due.due("peek(7)", core.peek(7), 0x0D);
         }
     }
 
@@ -56,10 +57,13 @@ public final class MemoryCallsTest {
     private static void loadsAnywhere() {
         for (int address = 0; address <= 60; address++) {
             RvCore core = new RvCore(64, 0);
+            for (int i = 0; i < 64; i++) {
+                core.poke(i, 100 + i);
+            }
             Due.due("load(" + address + ")", core.load(address, 0x84A3C2E1), true);
             for (int i = 0; i < 64; i++) {
                 int due = i == address ? 0xE1 : i == address + 1 ? 0xC2 : i == address + 2 ? 0xA3
-                        : i == address + 3 ? 0x84 : 0;
+                        : i == address + 3 ? 0x84 : 100 + i;
                 Due.due("peek(" + i + ") behind load(" + address + ")", core.peek(i), due);
             }
         }

@@ -25,19 +25,7 @@ public final class ResetTest {
         Due.due("outSize() before", core.outSize(), 1);
         Due.due("step() before", core.step(), RvCore.WAITS);
         core.reset();
-        for (int i = 0; i < 32; i++) {
-            Due.due("reg(" + i + ")", core.reg(i), 0);
-        }
-        for (int number : Asm.LISTED) {
-            int due = number == Asm.MSTATUS ? 0x1800 : number == Asm.MISA ? 0x40001100 : 0;
-            Due.due("csr(" + number + ")", core.csr(number), due);
-        }
-        Due.due("pc()", core.pc(), 0);
-        for (int which = 0; which <= 4; which++) {
-            Due.due("told(" + which + ")", core.told(which), which == 1 ? -1 : 0);
-        }
-        Due.due("outSize()", core.outSize(), 0);
-        Due.due("out(0)", core.out(0), -1);
+        Fresh.look(core);
         int first = Asm.lui(1, 1001 + 0x800);
         for (int i = 0; i < 4; i++) {
             Due.due("peek(" + i + "): MEMORY stays", core.peek(i), (first >>> (8 * i)) & 255);
