@@ -2,15 +2,33 @@
 final class Due {
     private static int wrong = 0;
     private static int looked = 0;
+    private static int sentences = 0;
+    private static String sentence = "";
+    private static int lookedBefore = 0;
 
     private Due() {
+    }
+
+    /** What follows is due by these words of the document. */
+    static void sentence(String words) {
+        endSentence();
+        sentence = words;
+        sentences++;
+        lookedBefore = looked;
+    }
+
+    private static void endSentence() {
+        if (sentences > 0 && looked == lookedBefore) {
+            wrong++;
+            System.out.println("[" + sentence + "] was not looked at");
+        }
     }
 
     static void due(String call, long got, long want) {
         looked++;
         if (got != want) {
             wrong++;
-            System.out.println(call + " answered " + got + " (0x" + Long.toHexString(got) + "), due is " + want
+            System.out.println((sentences > 0 ? "[" + sentence + "] " : "") + call + " answered " + got + " (0x" + Long.toHexString(got) + "), due is " + want
                     + " (0x" + Long.toHexString(want) + ")");
         }
     }
@@ -20,11 +38,13 @@ final class Due {
     }
 
     static void end() {
+        endSentence();
         if (looked == 0) {
             System.out.println("nothing was looked at");
             System.exit(1);
         }
-        System.out.println(wrong == 0 ? looked + " answers are as due" : wrong + " answers are not as due");
+        String of = sentences > 0 ? " by " + sentences + " sentences" : "";
+        System.out.println(wrong == 0 ? looked + " answers are as due" + of : wrong + " answers are not as due");
         if (wrong != 0) {
             System.exit(1);
         }

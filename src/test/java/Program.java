@@ -22,6 +22,11 @@ final class Program {
         return set(31, value).add(Asm.control(1, 0, 31, number));
     }
 
+    /** Ten instructions: TIME or LIMIT becomes the number. */
+    Program timer(int address, long value) {
+        return store(address + 4, (int) (value >>> 32)).store(address, (int) value);
+    }
+
     /** Five instructions: four bytes of the number come to the address; x30, x31 are used for it. */
     Program store(int address, int value) {
         return set(30, address).set(31, value).add(Asm.s(2, 30, 31, 0));
@@ -54,6 +59,15 @@ final class Program {
     RvCore doneOn(int bytes, int port) {
         RvCore core = on(bytes, port);
         Due.due("run of the whole program", core.run(words.size()), words.size());
+        return core;
+    }
+
+    /** All words have been done, each once, while TIME stood still but for what the words stored there. */
+    RvCore steppedOn(int bytes, int port) {
+        RvCore core = on(bytes, port);
+        for (int i = 0; i < words.size(); i++) {
+            Due.due("step() of word " + i, core.step(), RvCore.RETIRED);
+        }
         return core;
     }
 
