@@ -102,7 +102,8 @@ public final class CallEdgeTest {
     }
 
     private static void takes(int port, int due) {
-        RvCore core = new Program().set(1, Asm.PORT).add(Asm.read(2, 3, 1, 0), Asm.s(0, 1, 1, 0), Asm.j(0, -4)).on(64, port);
+        RvCore core = new Program().set(1, Asm.PORT).add(Asm.read(2, 3, 1, 0), Asm.s(0, 1, 1, 0), Asm.j(0, -4))
+                .on(64, port);
         core.run(100000);
         Due.due("room of a PORT of " + port, core.reg(3), due);
         Due.due("what ends it, a PORT of " + port, core.told(4), RvCore.REFUSED);
@@ -255,11 +256,14 @@ public final class CallEdgeTest {
         int[] places = {0, 1, 2, 3, 57, 58, 59, 60};
         for (int place : places) {
             RvCore core = new RvCore(64, 0);
+            for (int i = 0; i < 64; i++) {
+                core.poke(i, 0x5A);
+            }
             Due.due("load(" + place + ")", core.load(place, 0xFE80017F), true);
             int[] due = {0x7F, 0x01, 0x80, 0xFE};
             for (int i = 0; i < 64; i++) {
                 boolean comes = i >= place && i < place + 4;
-                Due.due("peek(" + i + ") behind load(" + place + ")", core.peek(i), comes ? due[i - place] : 0);
+                Due.due("peek(" + i + ") behind load(" + place + ")", core.peek(i), comes ? due[i - place] : 0x5A);
             }
         }
     }
@@ -309,8 +313,8 @@ public final class CallEdgeTest {
     private static void ticks() {
         Due.sentence("TIME is one more (64 bits, runs over).");
         // Of each row: TIME before and behind.
-        long[][] rows = {{0, 1}, {0x7FFFFFFFL, 0x80000000L}, {0xFFFFFFFFL, 0x100000000L}, {Long.MAX_VALUE, Long.MIN_VALUE}, {-2, -1},
-                {-1, 0}};
+        long[][] rows = {{0, 1}, {0x7FFFFFFFL, 0x80000000L}, {0xFFFFFFFFL, 0x100000000L},
+                {Long.MAX_VALUE, Long.MIN_VALUE}, {-2, -1}, {-1, 0}};
         for (long[] row : rows) {
             RvCore core = new Program().timer(Asm.TIME, row[0]).steppedOn(64, 0);
             Due.due("told(0) before", core.told(0), row[0]);
@@ -329,8 +333,8 @@ public final class CallEdgeTest {
             program.set(d, 100 + d);
         }
         RvCore core = program.doneOn(256, 0);
-        int[][] rows = {{0, 0}, {1, 101}, {31, 131}, {32, 0}, {33, 101}, {63, 131}, {64, 0}, {-1, 131}, {-31, 101}, {-32, 0},
-                {-33, 131}, {MAX, 131}, {MAX - 31, 0}, {MIN, 0}, {MIN + 1, 101}, {MIN + 31, 131}};
+        int[][] rows = {{0, 0}, {1, 101}, {31, 131}, {32, 0}, {33, 101}, {63, 131}, {64, 0}, {-1, 131}, {-31, 101},
+                {-32, 0}, {-33, 131}, {MAX, 131}, {MAX - 31, 0}, {MIN, 0}, {MIN + 1, 101}, {MIN + 31, 131}};
         for (int[] row : rows) {
             Due.due("reg(" + row[0] + ")", core.reg(row[0]), row[1]);
         }
@@ -357,8 +361,8 @@ public final class CallEdgeTest {
         Due.due("csr(0x343)", core.csr(0x343), -1);
         Due.due("csr(0x304)", core.csr(0x304), 0x888);
         Due.due("csr(0x305)", core.csr(0x305), 0xFFFFFFFD);
-        int[] others = {0, 1, -1, 0x2FF, 0x302, 0x303, 0x306, 0x33F, 0x345, 0xC00, 0xF13, 0xF15, 0xFFF, 0x1000, 0x1300, 0x1340,
-                0x340 - 0x1000, 0x340 | MIN, 0x340 + 0x10000, MIN, MAX};
+        int[] others = {0, 1, -1, 0x2FF, 0x302, 0x303, 0x306, 0x33F, 0x345, 0xC00, 0xF13, 0xF15, 0xFFF, 0x1000,
+                0x1300, 0x1340, 0x340 - 0x1000, 0x340 | MIN, 0x340 + 0x10000, MIN, MAX};
         for (int number : others) {
             Due.due("csr(" + number + ")", core.csr(number), 0);
         }
@@ -372,7 +376,8 @@ public final class CallEdgeTest {
         RvCore core = new RvCore(64, 0);
         Due.due("told(0) at first", core.told(0), 0);
         Due.due("told(1) at first", core.told(1), -1);
-        core = new Program().timer(Asm.TIME, Long.MIN_VALUE + 1).timer(Asm.LIMIT, 0xFEDCBA9876543210L).steppedOn(128, 0);
+        core = new Program().timer(Asm.TIME, Long.MIN_VALUE + 1).timer(Asm.LIMIT, 0xFEDCBA9876543210L)
+                .steppedOn(128, 0);
         Due.due("told(0)", core.told(0), Long.MIN_VALUE + 1);
         Due.due("told(1)", core.told(1), 0xFEDCBA9876543210L);
     }
@@ -446,7 +451,8 @@ public final class CallEdgeTest {
 
     private static void sizeOfWhatWasSent() {
         Due.sentence("How many bytes the PORT has sent.");
-        RvCore core = new Program().set(1, Asm.PORT).add(Asm.s(0, 1, 1, 0), Asm.s(1, 1, 1, 0), Asm.s(2, 1, 1, 0)).on(64, 2);
+        RvCore core = new Program().set(1, Asm.PORT).add(Asm.s(0, 1, 1, 0), Asm.s(1, 1, 1, 0), Asm.s(2, 1, 1, 0))
+                .on(64, 2);
         Due.due("outSize() at first", core.outSize(), 0);
         core.run(2);
         int[] due = {1, 2, 2, 2};

@@ -53,7 +53,8 @@ public final class ControlEdgeTest {
         int[] places = {0, 4, 0xFFFFFFFC, 0x80000000};
         for (int[] row : rows) {
             for (int place : places) {
-                RvCore core = new Program().control(Asm.MEPC, place).control(Asm.MSTATUS, row[0]).add(Asm.BACK).readyOn(64, 0);
+                RvCore core = new Program().control(Asm.MEPC, place).control(Asm.MSTATUS, row[0]).add(Asm.BACK)
+                        .readyOn(64, 0);
                 Due.due("step() of BACK", core.step(), RvCore.RETIRED);
                 Due.due("pc()", core.pc(), place);
                 Due.due("mstatus behind " + row[0], core.csr(Asm.MSTATUS), row[1]);
@@ -104,7 +105,8 @@ public final class ControlEdgeTest {
         Due.sentence("d becomes what it was; it becomes v (f 1, 5), it or v (2, 6), it without the bits of v (3, 7)");
         // Of each row: f, what it was, v, what it becomes.
         int[][] rows = {{1, 0, -1, -1}, {1, -1, 0, 0}, {1, 0x0F0F, 0x00FF, 0x00FF}, {2, 0, -1, -1}, {2, -1, 0, -1},
-                {2, 0x0F0F, 0x00FF, 0x0FFF}, {3, -1, -1, 0}, {3, 0, -1, 0}, {3, -1, 0, -1}, {3, 0x0F0F, 0x00FF, 0x0F00}};
+                {2, 0x0F0F, 0x00FF, 0x0FFF}, {3, -1, -1, 0}, {3, 0, -1, 0}, {3, -1, 0, -1},
+                {3, 0x0F0F, 0x00FF, 0x0F00}};
         for (int[] row : rows) {
             RvCore core = changed(row[0], Asm.MSCRATCH, row[1], row[2], 1);
             String text = "f " + row[0] + " with " + row[1] + ", " + row[2];
@@ -158,14 +160,16 @@ public final class ControlEdgeTest {
             One.gives("f " + f + " on mhartid", Asm.control(f, 3, 0, Asm.MHARTID), 5, 7, 0);
         }
         // s is meant, not what x[s] holds.
-        One.trapped("f 2 on mhartid, x1 being 0", Asm.control(2, 3, 1, Asm.MHARTID), 0, 0, 2, Asm.control(2, 3, 1, Asm.MHARTID));
-        One.trapped("f 3 on mhartid, x1 being 0", Asm.control(3, 3, 1, Asm.MHARTID), 0, 0, 2, Asm.control(3, 3, 1, Asm.MHARTID));
+        for (int f = 2; f < 4; f++) {
+            int word = Asm.control(f, 3, 1, Asm.MHARTID);
+            One.trapped("f " + f + " on mhartid, x1 being 0", word, 0, 0, 2, word);
+        }
     }
 
     private static void notListed() {
         Due.sentence("so is a control register that is not listed");
-        int[] numbers = {0, 1, 0x100, 0x2FF, 0x302, 0x303, 0x306, 0x307, 0x33F, 0x345, 0x346, 0x740, 0xB00, 0xBFF, 0xC00,
-                0xC01, 0xF11, 0xF12, 0xF13, 0xF15, 0xFFF};
+        int[] numbers = {0, 1, 0x100, 0x2FF, 0x302, 0x303, 0x306, 0x307, 0x33F, 0x345, 0x346, 0x740, 0xB00, 0xBFF,
+                0xC00, 0xC01, 0xF11, 0xF12, 0xF13, 0xF15, 0xFFF};
         for (int number : numbers) {
             for (int f = 1; f < 8; f++) {
                 if (f != 4) {
@@ -251,13 +255,14 @@ public final class ControlEdgeTest {
     private static void mip() {
         Due.sentence("0x344 mip: bit 7 is whether TIME is not below LIMIT, without sign");
         // Of each row: TIME, LIMIT, whether the bit is 1.
-        long[][] rows = {{0, 0, 1}, {0, 1, 0}, {1, 1, 1}, {2, 1, 1}, {0, -1, 0}, {-2, -1, 0}, {-1, -1, 1}, {-1, 0, 1}, {-1, -2, 1},
-                {Long.MAX_VALUE, Long.MIN_VALUE, 0}, {Long.MIN_VALUE, Long.MAX_VALUE, 1}, {Long.MIN_VALUE, Long.MIN_VALUE, 1},
+        long[][] rows = {{0, 0, 1}, {0, 1, 0}, {1, 1, 1}, {2, 1, 1}, {0, -1, 0}, {-2, -1, 0}, {-1, -1, 1}, {-1, 0, 1},
+                {-1, -2, 1}, {Long.MAX_VALUE, Long.MIN_VALUE, 0}, {Long.MIN_VALUE, Long.MAX_VALUE, 1},
+                {Long.MIN_VALUE, Long.MIN_VALUE, 1},
                 {0xFFFFFFFFL, 0x100000000L, 0}, {0x100000000L, 0xFFFFFFFFL, 1}, {0x100000000L, 0x100000000L, 1},
                 {0x80000000L, 0x7FFFFFFFL, 1}, {0x7FFFFFFFL, 0x80000000L, 0}};
         for (long[] row : rows) {
-            RvCore core = new Program().timer(Asm.LIMIT, row[1]).timer(Asm.TIME, row[0]).add(Asm.control(2, 3, 0, Asm.MIP))
-                    .steppedOn(128, 0);
+            RvCore core = new Program().timer(Asm.LIMIT, row[1]).timer(Asm.TIME, row[0])
+                    .add(Asm.control(2, 3, 0, Asm.MIP)).steppedOn(128, 0);
             String text = "mip with TIME " + row[0] + ", LIMIT " + row[1];
             Due.due(text, core.csr(Asm.MIP), row[2] == 1 ? 0x80 : 0);
             Due.due("x3, " + text, core.reg(3), row[2] == 1 ? 0x80 : 0);

@@ -54,7 +54,8 @@ public final class DeviceEdgeTest {
     }
 
     private static void neighbours() {
-        Due.sentence("TIME at 0x0200BFF8 (its lower half), 0x0200BFFC; LIMIT at 0x02004000, 0x02004004. The PORT at 0x10000000");
+        Due.sentence("TIME at 0x0200BFF8 (its lower half), 0x0200BFFC; LIMIT at 0x02004000, 0x02004004. "
+                + "The PORT at 0x10000000");
         int[] places = {0x0200BFF4, 0x0200C000, 0x02003FFC, 0x02004008, 0x0FFFFFFC, 0x10000004, 0x02000000, 0x8200BFF8,
                 0x82004000, 0x90000000};
         for (int place : places) {
@@ -111,8 +112,8 @@ public final class DeviceEdgeTest {
     private static void portSends() {
         Due.sentence("what is stored there (one, two, four bytes) sends its lowest byte");
         // Of each row: what is stored, what is sent.
-        int[][] rows = {{0, 0}, {1, 1}, {127, 127}, {128, 128}, {255, 255}, {256, 0}, {0x1FF, 255}, {-1, 255}, {-256, 0},
-                {0x80000000, 0}, {0x7FFFFFFF, 255}, {0x12345678, 0x78}};
+        int[][] rows = {{0, 0}, {1, 1}, {127, 127}, {128, 128}, {255, 255}, {256, 0}, {0x1FF, 255}, {-1, 255},
+                {-256, 0}, {0x80000000, 0}, {0x7FFFFFFF, 255}, {0x12345678, 0x78}};
         for (int[] row : rows) {
             for (int f = 0; f < 3; f++) {
                 RvCore core = One.ready(Asm.s(f, 1, 2, 0), 0x10000000, row[0]);

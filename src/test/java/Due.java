@@ -28,7 +28,8 @@ final class Due {
         looked++;
         if (got != want) {
             wrong++;
-            System.out.println((sentences > 0 ? "[" + sentence + "] " : "") + call + " answered " + got + " (0x" + Long.toHexString(got) + "), due is " + want
+            String by = sentences > 0 ? "[" + sentence + "] " : "";
+            System.out.println(by + call + " answered " + got + " (0x" + Long.toHexString(got) + "), due is " + want
                     + " (0x" + Long.toHexString(want) + ")");
         }
     }

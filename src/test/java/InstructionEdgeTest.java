@@ -28,9 +28,9 @@ public final class InstructionEdgeTest {
 
     private static void placeGoesOn() {
         Due.sentence("PC becomes PC + 4, where nothing else is said.");
-        int[] words = {Asm.lui(3, 0), Asm.auipc(3, 0), Asm.b(1, 0, 0, 64), Asm.read(2, 3, 0, 0), Asm.s(2, 0, 3, 64), Asm.addi(3, 3, 1),
-                Asm.r(0x33, 3, 0, 1, 2, 0), Asm.r(0x33, 3, 4, 1, 2, 1), Asm.FENCE, Asm.WAIT, Asm.control(1, 3, 1, Asm.MEPC),
-                Asm.control(2, 3, 0, Asm.MIP)};
+        int[] words = {Asm.lui(3, 0), Asm.auipc(3, 0), Asm.b(1, 0, 0, 64), Asm.read(2, 3, 0, 0), Asm.s(2, 0, 3, 64),
+                Asm.addi(3, 3, 1), Asm.r(0x33, 3, 0, 1, 2, 0), Asm.r(0x33, 3, 4, 1, 2, 1), Asm.FENCE, Asm.WAIT,
+                Asm.control(1, 3, 1, Asm.MEPC), Asm.control(2, 3, 0, Asm.MIP)};
         for (int word : words) {
             One.goes("0x" + Integer.toHexString(word), word, 5, 7, One.PLACE + 4);
         }
@@ -177,7 +177,8 @@ public final class InstructionEdgeTest {
         Due.sentence("4 a xor b, 6 or, 7 and");
         // Of each row: a, I, and what f 4, 6, 7 give.
         int[][] rows = {{0, 0, 0, 0, 0}, {-1, -1, 0, -1, -1}, {0, -1, -1, -1, 0}, {-1, 0, -1, -1, 0},
-                {0x12345678, 0x7FF, 0x12345187, 0x123457FF, 0x678}, {0x12345678, -2048, 0xEDCBAE78, 0xFFFFFE78, 0x12345000}};
+                {0x12345678, 0x7FF, 0x12345187, 0x123457FF, 0x678},
+                {0x12345678, -2048, 0xEDCBAE78, 0xFFFFFE78, 0x12345000}};
         for (int[] row : rows) {
             withNumber(4, row[0], row[1], row[2]);
             withNumber(6, row[0], row[1], row[3]);
@@ -189,7 +190,8 @@ public final class InstructionEdgeTest {
         Due.sentence("1 (g 0) a to the left by t, 5 to the right by t: 0s come (g 0), or its sign (g 32).");
         // Of each row: a, t, and what the three ways give.
         int[][] rows = {{0x12345678, 0, 0x12345678, 0x12345678, 0x12345678}, {1, 31, LEAST, 0, 0}, {3, 31, LEAST, 0, 0},
-                {-1, 31, LEAST, 1, -1}, {LEAST, 31, 0, 1, -1}, {GREATEST, 31, LEAST, 0, 0}, {LEAST, 1, 0, 0x40000000, 0xC0000000},
+                {-1, 31, LEAST, 1, -1}, {LEAST, 31, 0, 1, -1}, {GREATEST, 31, LEAST, 0, 0},
+                {LEAST, 1, 0, 0x40000000, 0xC0000000},
                 {GREATEST, 30, 0xC0000000, 1, 1}, {-2, 0, -2, -2, -2}, {-1, 16, 0xFFFF0000, 0xFFFF, -1}};
         for (int[] row : rows) {
             String text = row[0] + " by " + row[1];
@@ -228,8 +230,10 @@ public final class InstructionEdgeTest {
         Due.sentence("t being the lowest five bits of b, g 0 (f 5: 0, 32)");
         // Of each row: b, and what 0x80000006 gives by f 1, f 5 and f 5 with g 32.
         int[][] rows = {{0, 0x80000006, 0x80000006, 0x80000006}, {1, 12, 0x40000003, 0xC0000003}, {31, 0, 1, -1},
-                {32, 0x80000006, 0x80000006, 0x80000006}, {33, 12, 0x40000003, 0xC0000003}, {63, 0, 1, -1}, {-1, 0, 1, -1},
-                {-32, 0x80000006, 0x80000006, 0x80000006}, {LEAST + 1, 12, 0x40000003, 0xC0000003}, {0x100, 0x80000006, 0x80000006, 0x80000006}};
+                {32, 0x80000006, 0x80000006, 0x80000006}, {33, 12, 0x40000003, 0xC0000003}, {63, 0, 1, -1},
+                {-1, 0, 1, -1}, {-32, 0x80000006, 0x80000006, 0x80000006},
+                {LEAST + 1, 12, 0x40000003, 0xC0000003},
+                {0x100, 0x80000006, 0x80000006, 0x80000006}};
         for (int[] row : rows) {
             withRegister(1, 0, 0x80000006, row[0], row[1]);
             withRegister(5, 0, 0x80000006, row[0], row[2]);
@@ -259,11 +263,13 @@ public final class InstructionEdgeTest {
     private static void multiplies() {
         Due.sentence("0x33, g 1: f 0 a b; 1 the upper 32 bits of a b with signs, 2 a with, b without, 3 both without");
         // Of each row: a, b, and what f 0 .. 3 give.
-        int[][] rows = {{0, -1, 0, 0, 0, 0}, {-1, 0, 0, 0, 0, 0}, {-1, -1, 1, 0, -1, -2}, {LEAST, LEAST, 0, 0x40000000, 0xC0000000, 0x40000000},
+        int[][] rows = {{0, -1, 0, 0, 0, 0}, {-1, 0, 0, 0, 0, 0}, {-1, -1, 1, 0, -1, -2},
+                {LEAST, LEAST, 0, 0x40000000, 0xC0000000, 0x40000000},
                 {LEAST, -1, LEAST, 0, LEAST, GREATEST}, {-1, LEAST, LEAST, 0, -1, GREATEST},
-                {GREATEST, GREATEST, 1, 0x3FFFFFFF, 0x3FFFFFFF, 0x3FFFFFFF}, {LEAST, GREATEST, LEAST, 0xC0000000, 0xC0000000, 0x3FFFFFFF},
-                {GREATEST, LEAST, LEAST, 0xC0000000, 0x3FFFFFFF, 0x3FFFFFFF}, {1, -1, -1, -1, 0, 0}, {-1, 1, -1, -1, -1, 0},
-                {65536, 65536, 0, 1, 1, 1}};
+                {GREATEST, GREATEST, 1, 0x3FFFFFFF, 0x3FFFFFFF, 0x3FFFFFFF},
+                {LEAST, GREATEST, LEAST, 0xC0000000, 0xC0000000, 0x3FFFFFFF},
+                {GREATEST, LEAST, LEAST, 0xC0000000, 0x3FFFFFFF, 0x3FFFFFFF}, {1, -1, -1, -1, 0, 0},
+                {-1, 1, -1, -1, -1, 0}, {65536, 65536, 0, 1, 1, 1}};
         for (int[] row : rows) {
             for (int f = 0; f < 4; f++) {
                 withRegister(f, 1, row[0], row[1], row[f + 2]);
@@ -274,10 +280,12 @@ public final class InstructionEdgeTest {
     private static void divides() {
         Due.sentence("4 a / b towards 0, 5 so without signs, 6 the rest that goes with 4, 7 with 5.");
         // Of each row: a, b, and what f 4 .. 7 give.
-        int[][] rows = {{7, 2, 3, 3, 1, 1}, {-7, 2, -3, 0x7FFFFFFC, -1, 1}, {7, -2, -3, 0, 1, 7}, {-7, -2, 3, 0, -1, -7},
-                {1, 2, 0, 0, 1, 1}, {-1, 2, 0, GREATEST, -1, 1}, {0, -1, 0, 0, 0, 0}, {-1, -1, 1, 1, 0, 0}, {-1, 1, -1, -1, 0, 0},
-                {GREATEST, -1, -GREATEST, 0, 0, GREATEST}, {LEAST, 1, LEAST, LEAST, 0, 0}, {LEAST, 2, 0xC0000000, 0x40000000, 0, 0},
-                {GREATEST, LEAST, 0, 0, GREATEST, GREATEST}, {LEAST, GREATEST, -1, 1, -1, 1}, {LEAST, LEAST, 1, 1, 0, 0}};
+        int[][] rows = {{7, 2, 3, 3, 1, 1}, {-7, 2, -3, 0x7FFFFFFC, -1, 1}, {7, -2, -3, 0, 1, 7},
+                {-7, -2, 3, 0, -1, -7}, {1, 2, 0, 0, 1, 1}, {-1, 2, 0, GREATEST, -1, 1}, {0, -1, 0, 0, 0, 0},
+                {-1, -1, 1, 1, 0, 0}, {-1, 1, -1, -1, 0, 0}, {GREATEST, -1, -GREATEST, 0, 0, GREATEST},
+                {LEAST, 1, LEAST, LEAST, 0, 0}, {LEAST, 2, 0xC0000000, 0x40000000, 0, 0},
+                {GREATEST, LEAST, 0, 0, GREATEST, GREATEST}, {LEAST, GREATEST, -1, 1, -1, 1},
+                {LEAST, LEAST, 1, 1, 0, 0}};
         for (int[] row : rows) {
             for (int f = 4; f < 8; f++) {
                 withRegister(f, 1, row[0], row[1], row[f - 2]);

@@ -96,8 +96,8 @@ public final class TermsEdgeTest {
         Due.due("mtval behind the last word", core.csr(Asm.MTVAL), 64);
         int[] sizes = {1, 2, 4};
         for (int f = 0; f < 3; f++) {
-            core = new Program().add(Asm.s(f, 0, 0, 64 - sizes[f]), Asm.read(f, 3, 0, 64 - sizes[f]), Asm.s(f, 0, 0, 64))
-                    .on(67, 0);
+            int last = 64 - sizes[f];
+            core = new Program().add(Asm.s(f, 0, 0, last), Asm.read(f, 3, 0, last), Asm.s(f, 0, 0, 64)).on(67, 0);
             Due.due("run(9), f " + f, core.run(9), 3);
             Due.due("mcause, f " + f, core.csr(Asm.MCAUSE), 7);
             Due.due("mtval, f " + f, core.csr(Asm.MTVAL), 64);

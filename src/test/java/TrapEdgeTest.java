@@ -64,8 +64,8 @@ public final class TrapEdgeTest {
         Due.sentence("MPIE what MIE is, MIE 0");
         // Of each row: mstatus before and behind.
         int[][] rows = {{0x00, 0x1800}, {0x08, 0x1880}, {0x80, 0x1800}, {0x88, 0x1880}};
-        int[] words = {Asm.CALL, Asm.BREAK, 0, Asm.j(0, 2), Asm.read(2, 3, 0, 1), Asm.read(2, 3, 0, 64), Asm.s(2, 0, 3, 1),
-                Asm.s(2, 0, 3, 64)};
+        int[] words = {Asm.CALL, Asm.BREAK, 0, Asm.j(0, 2), Asm.read(2, 3, 0, 1), Asm.read(2, 3, 0, 64),
+                Asm.s(2, 0, 3, 1), Asm.s(2, 0, 3, 64)};
         for (int[] row : rows) {
             for (int word : words) {
                 RvCore core = new Program().control(Asm.MSTATUS, row[0]).add(word).readyOn(64, 0);
@@ -124,7 +124,8 @@ public final class TrapEdgeTest {
         for (int i = 0; i < sizes.length; i++) {
             int[] places = {ends[i], ends[i] + 4, 0x7FFFFFFC, 0x80000000, 0xFFFFFFFC};
             for (int place : places) {
-                RvCore core = new Program().control(Asm.MTVEC, 8).set(1, place).add(Asm.jalr(0, 1, 0)).doneOn(sizes[i], 0);
+                RvCore core = new Program().control(Asm.MTVEC, 8).set(1, place).add(Asm.jalr(0, 1, 0))
+                        .doneOn(sizes[i], 0);
                 Due.due("step() at " + place, core.step(), RvCore.TRAPPED);
                 Due.due("mcause at " + place, core.csr(Asm.MCAUSE), 1);
                 Due.due("mtval at " + place, core.csr(Asm.MTVAL), place);
